@@ -10,7 +10,7 @@ public final class ModelTest {
 
     private ModelTest(int run) {
         seed = run * 7919L + 1;
-        kind = run % 3;
+        kind = run % 4;
     }
 
     public static void main(String[] args) {
@@ -58,10 +58,14 @@ public final class ModelTest {
     }
 
     private void tellVertex() {
+        if (kind == 3) {
+            changeRows();
+        }
         int most = kind == 0 ? 3 : 31;
-        int x = pick(-most, most);
-        int y = pick(-most, most);
-        int z = kind == 2 && pick(0, 1) == 0 ? 31 : pick(-most, most);
+        boolean farthest = kind == 3 && pick(0, 3) != 0;
+        int x = farthest ? 31 : pick(-most, most);
+        int y = farthest ? 31 : pick(-most, most);
+        int z = farthest || (kind == 2 && pick(0, 1) == 0) ? 31 : pick(-most, most);
         int u = pick(0, 40) == 0 ? 128 : pick(-127, 127);
         int v = pick(-20, 20);
         CHECKS.due("vertex", Checks.outcome(() -> model.vertex(x, y, z, u, v)), () -> scene.vertex(x, y, z, u, v));
@@ -96,7 +100,10 @@ public final class ModelTest {
         }
     }
 
-    /** Kind 0 makes edges run through centres, kind 1 is an ordinary view, kind 2 goes to the limits. */
+    /**
+     * Kind 0 makes edges run through centres, kind 1 is an ordinary view, kind 2 has great entries,
+     * and kind 3 makes X, Y, Z, W as great as they can be, or nearly so.
+     */
     private void changeRows() {
         if (kind == 0) {
             changeRow(0, pick(1, 5), 0, 0, pick(-2, 2));
@@ -107,9 +114,14 @@ public final class ModelTest {
             changeRow(1, pick(-3, 3), pick(-3, 3), 1, 0);
             changeRow(2, pick(-3, 3), pick(-3, 3), pick(-9, 9), 0);
             changeRow(3, pick(-1, 1), pick(-1, 1), pick(-1, 1), pick(10, 60));
-        } else {
+        } else if (kind == 2) {
             for (int row = 0; row < 4; row++) {
                 changeRow(row, great(), great(), great(), great());
+            }
+        } else {
+            for (int row = 0; row < 4; row++) {
+                int greatest = pick(0, 1) * 1022 - 511;
+                changeRow(row, greatest, greatest, greatest, pick(0, 2) == 0 ? great() : greatest);
             }
         }
     }

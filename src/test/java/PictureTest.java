@@ -344,36 +344,50 @@ public final class PictureTest {
         CHECKS.due("both have one", 0, () -> part.compare(5, 5, 6, 6));
     }
 
-    /** Depths that differ by far less than a double or a product of longs can tell. */
+    /**
+     * Two triangles share the edge between vertices 0 and 1, which runs by the centre of (7, 5) so
+     * closely that E2 is 8 there: their depths differ by less than a double can tell, and each has
+     * another D, so that whoever compares products needs more than a long.
+     */
     private static void compareIsExact() {
-        ExactScene scene = new ExactScene();
-        scene.row(0, 511, 3, -7, 1);
-        scene.row(1, 5, 509, 11, -3);
-        scene.row(2, 500, 497, -491, 11);
-        scene.row(3, 2, 1, 499, 311);
-        tell(scene, -31, -31, 31);
-        tell(scene, 31, -30, 29);
-        tell(scene, -1, 31, 30);
-        scene.draw(0);
-        Model model = new Model();
-        model.row(0, 511, 3, -7, 1);
-        model.row(1, 5, 509, 11, -3);
-        model.row(2, 500, 497, -491, 11);
-        model.row(3, 2, 1, 499, 311);
-        model.vertex(-31, -31, 31, 0, 0);
-        model.vertex(31, -30, 29, 0, 0);
-        model.vertex(-1, 31, 30, 0, 0);
-        model.draw(0);
-        for (int n = 0; n < 192; n++) {
-            for (int m = 0; m < 192; m++) {
-                int i = n % 16;
-                int j = n / 16;
-                int k = m % 16;
-                int q = m / 16;
-                CHECKS.due("compare of great numbers", Checks.outcome(() -> model.compare(i, j, k, q)),
-                        () -> scene.compare(i, j, k, q));
-            }
+        int[] greater = {-41307, 34927, -15611, -27087};
+        int[] less = {-44687, 30881, 41407, -27508};
+        ExactScene lessLast = new ExactScene();
+        tellByAHair(lessLast, 1, greater);
+        tellByAHair(lessLast, 1, less);
+        lessLast.draw(0);
+        CHECKS.due("owner by a hair", 1, () -> lessLast.owner(7, 5));
+        ExactScene lessFirst = new ExactScene();
+        tellByAHair(lessFirst, 1, less);
+        tellByAHair(lessFirst, 1, greater);
+        lessFirst.draw(0);
+        CHECKS.due("owner by a hair", 0, () -> lessFirst.owner(7, 5));
+        ExactScene mirrored = new ExactScene();
+        tellByAHair(mirrored, 1, greater);
+        tellByAHair(mirrored, -1, less);
+        mirrored.draw(0);
+        CHECKS.due("the greater one's owner", 0, () -> mirrored.owner(7, 5));
+        CHECKS.due("the other's owner", 1, () -> mirrored.owner(8, 5));
+        CHECKS.due("greater by a hair", 1, () -> mirrored.compare(7, 5, 8, 5));
+        CHECKS.due("less by a hair", -1, () -> mirrored.compare(8, 5, 7, 5));
+    }
+
+    /** The third vertex is X, Y, Z, W; mirror -1 shows the left side of the picture on the right. */
+    private static void tellByAHair(ExactScene scene, int mirror, int[] third) {
+        tellMade(scene, mirror * -25970, -35138, 48034, -39277);
+        tellMade(scene, mirror * 18684, 25288, 48034, 35483);
+        tellMade(scene, mirror * third[0], third[1], third[2], third[3]);
+    }
+
+    /** A vertex of which the matrix makes just these numbers. */
+    private static void tellMade(ExactScene scene, int... made) {
+        for (int row = 0; row < 4; row++) {
+            int whole = Math.max(-1533, Math.min(1533, made[row] / 31));
+            int a = Math.max(-511, Math.min(511, whole));
+            int b = Math.max(-511, Math.min(511, whole - a));
+            scene.row(row, a, b, whole - a - b, made[row] - 31 * whole);
         }
+        tell(scene, 31, 31, 31);
     }
 
     private static void pixelsOutsideAreRefused() {
