@@ -1,9 +1,11 @@
 /** Many runs of calls, always the same ones, each answer held against the model's. */
 public final class ModelTest {
     private static final Checks CHECKS = new Checks();
-    private static final int RUNS = 900;
+    private static final int RUNS = 3000;
+    private static final int MOST_CALLS = 512;
 
     private long seed;
+    private int calls;
     private final int kind;
     private final ExactScene scene = new ExactScene();
     private final Model model = new Model();
@@ -21,32 +23,54 @@ public final class ModelTest {
     }
 
     private void play() {
-        fillTextures();
-        for (int round = 0; round < 3; round++) {
+        while (calls < MOST_CALLS) {
+            changeTexels();
             changeMatrix();
-            int vertices = pick(2, 24);
-            for (int n = 0; n < vertices; n++) {
-                tellVertex();
-                if (pick(0, 5) == 0) {
-                    changeMatrix();
-                }
-                if (pick(0, 4) == 0) {
-                    changeUse();
-                }
-            }
-            look();
+            tellVertices(pick(2, 24));
+            lookAtPicture(60);
             if (pick(0, 2) == 0) {
-                CHECKS.due("clear()", model.clear(), scene::clear);
+                ask("clear()", model::clear, scene::clear);
                 lookAtPixels(8);
             }
         }
     }
 
-    private void fillTextures() {
-        for (int n = 0; n < 128; n++) {
-            int k = n;
+    /** What the document promises of an object ends with its 512th call. */
+    private void ask(String what, Checks.Call ofModel, Checks.Call ofScene) {
+        if (calls < MOST_CALLS) {
+            calls++;
+            CHECKS.due(what, Checks.outcome(ofModel), ofScene);
+        }
+    }
+
+    private void make(String what, Checks.Deed ofModel, Checks.Deed ofScene) {
+        ask(what, () -> done(ofModel), () -> done(ofScene));
+    }
+
+    private static Object done(Checks.Deed deed) {
+        deed.run();
+        return "nothing";
+    }
+
+    private void changeTexels() {
+        for (int n = 0; n < 40; n++) {
+            int texture = pick(0, 30) == 0 ? 2 : pick(0, 1);
+            int s = pick(0, 7);
+            int t = pick(0, 7);
             int x = pick(-600, 600);
-            CHECKS.due("texel", model.texel(k / 64, k % 8, k / 8 % 8, x), () -> scene.texel(k / 64, k % 8, k / 8 % 8, x));
+            ask("texel", () -> model.texel(texture, s, t, x), () -> scene.texel(texture, s, t, x));
+        }
+    }
+
+    private void tellVertices(int count) {
+        for (int n = 0; n < count; n++) {
+            tellVertex();
+            if (pick(0, 5) == 0) {
+                changeMatrix();
+            }
+            if (pick(0, 4) == 0) {
+                changeUse();
+            }
         }
     }
 
@@ -54,7 +78,7 @@ public final class ModelTest {
         int texture = pick(0, 1);
         int mode = pick(0, 1);
         int sides = pick(0, 12) == 0 ? 3 : pick(0, 2);
-        CHECKS.due("use", model.use(texture, mode, sides), () -> scene.use(texture, mode, sides));
+        ask("use", () -> model.use(texture, mode, sides), () -> scene.use(texture, mode, sides));
     }
 
     private void tellVertex() {
@@ -68,35 +92,36 @@ public final class ModelTest {
         int z = farthest || (kind == 2 && pick(0, 1) == 0) ? 31 : pick(-most, most);
         int u = pick(0, 40) == 0 ? 128 : pick(-127, 127);
         int v = pick(-20, 20);
-        CHECKS.due("vertex", Checks.outcome(() -> model.vertex(x, y, z, u, v)), () -> scene.vertex(x, y, z, u, v));
+        ask("vertex", () -> model.vertex(x, y, z, u, v), () -> scene.vertex(x, y, z, u, v));
     }
 
     private void changeMatrix() {
         switch (pick(0, 8)) {
-            case 0 -> both("push", model::push, scene::push);
-            case 1 -> both("pop", model::pop, scene::pop);
-            case 2 -> both("join", model::join, scene::join);
+            case 0 -> make("push", model::push, scene::push);
+            case 1 -> make("pop", model::pop, scene::pop);
+            case 2 -> make("join", model::join, scene::join);
             case 3 -> {
                 int axis = pick(-1, 3);
-                both("turn", () -> model.turn(axis), () -> scene.turn(axis));
+                make("turn", () -> model.turn(axis), () -> scene.turn(axis));
             }
             case 4 -> {
                 int a = pick(-4, 4);
                 int b = pick(-4, 4);
                 int c = pick(-4, 4);
-                both("move", () -> model.move(a, b, c), () -> scene.move(a, b, c));
+                make("move", () -> model.move(a, b, c), () -> scene.move(a, b, c));
             }
             case 5 -> {
                 int a = pick(-3, 3);
                 int b = pick(1, 3);
                 int c = pick(1, 3);
-                both("stretch", () -> model.stretch(a, b, c), () -> scene.stretch(a, b, c));
+                make("stretch", () -> model.stretch(a, b, c), () -> scene.stretch(a, b, c));
             }
             default -> changeRows();
         }
-        for (int n = 0; n < 16; n++) {
-            int k = n;
-            CHECKS.due("entry", model.entry(k / 4, k % 4), () -> scene.entry(k / 4, k % 4));
+        for (int n = 0; n < 3; n++) {
+            int row = pick(0, 3);
+            int column = pick(0, 3);
+            ask("entry", () -> model.entry(row, column), () -> scene.entry(row, column));
         }
     }
 
@@ -131,27 +156,19 @@ public final class ModelTest {
     }
 
     private void changeRow(int row, int a, int b, int c, int d) {
-        both("row", () -> model.row(row, a, b, c, d), () -> scene.row(row, a, b, c, d));
+        make("row", () -> model.row(row, a, b, c, d), () -> scene.row(row, a, b, c, d));
     }
 
-    private void look() {
+    private void lookAtPicture(int pixels) {
         int background = pick(-1000, 1000);
-        CHECKS.due("draw", model.draw(background), () -> scene.draw(background));
-        for (int k = 0; k < 20; k++) {
-            int number = k;
+        ask("draw", () -> model.draw(background), () -> scene.draw(background));
+        for (int n = 0; n < 6; n++) {
+            int number = pick(0, 8);
             int which = pick(0, 12);
-            CHECKS.due("triangle", Checks.outcome(() -> model.triangle(number, which)),
-                    () -> scene.triangle(number, which));
-            CHECKS.due("D", Checks.outcome(() -> model.triangle(number, 0)), () -> scene.triangle(number, 0));
+            ask("triangle", () -> model.triangle(number, which), () -> scene.triangle(number, which));
+            ask("D", () -> model.triangle(number, 0), () -> scene.triangle(number, 0));
         }
-        for (int n = 0; n < 192; n++) {
-            int i = n % 16;
-            int j = n / 16;
-            CHECKS.due("owner", model.owner(i, j), () -> scene.owner(i, j));
-            CHECKS.due("colour", model.colour(i, j), () -> scene.colour(i, j));
-            CHECKS.due("depth", Checks.outcome(() -> model.depth(i, j)), () -> scene.depth(i, j));
-        }
-        lookAtPixels(100);
+        lookAtPixels(pixels);
     }
 
     private void lookAtPixels(int times) {
@@ -160,18 +177,11 @@ public final class ModelTest {
             int j = pick(0, 11);
             int k = pick(0, 15);
             int m = pick(0, 11);
-            CHECKS.due("compare", Checks.outcome(() -> model.compare(i, j, k, m)), () -> scene.compare(i, j, k, m));
-            CHECKS.due("owner", model.owner(i, j), () -> scene.owner(i, j));
+            ask("owner", () -> model.owner(i, j), () -> scene.owner(i, j));
+            ask("colour", () -> model.colour(i, j), () -> scene.colour(i, j));
+            ask("depth", () -> model.depth(k, m), () -> scene.depth(k, m));
+            ask("compare", () -> model.compare(i, j, k, m), () -> scene.compare(i, j, k, m));
         }
-    }
-
-    private static void both(String what, Checks.Deed ofModel, Checks.Deed ofScene) {
-        CHECKS.due(what, Checks.outcome(() -> done(ofModel)), () -> done(ofScene));
-    }
-
-    private static Object done(Checks.Deed deed) {
-        deed.run();
-        return "nothing";
     }
 
     private int pick(int least, int most) {
