@@ -1,8 +1,10 @@
 /** Many runs of calls, always the same ones, each answer held against the model's. */
 public final class ModelTest {
     private static final Checks CHECKS = new Checks();
-    private static final int RUNS = 3000;
+    private static final int RUNS = 2000;
     private static final int MOST_CALLS = 512;
+    private static final int[] ENDS = {Integer.MIN_VALUE, Integer.MAX_VALUE, -512, -511, -128, -127, -32, -31, -1, 0, 0,
+        1, 1, 2, 2, 3, 4, 5, 7, 8, 11, 12, 13, 15, 16, 20, 31, 32, 127, 128, 256, 511, 512};
 
     private long seed;
     private int calls;
@@ -18,6 +20,7 @@ public final class ModelTest {
     public static void main(String[] args) {
         for (int run = 0; run < RUNS; run++) {
             new ModelTest(run).play();
+            new ModelTest(run).playWild();
         }
         CHECKS.end("ModelTest");
     }
@@ -33,6 +36,65 @@ public final class ModelTest {
                 lookAtPixels(8);
             }
         }
+    }
+
+    /** Any call at any time, with numbers from both sides of the document's ends. */
+    private void playWild() {
+        while (calls < MOST_CALLS) {
+            switch (pick(0, 5)) {
+                case 0 -> changeWildly(end(), end(), end());
+                case 1 -> tellWildly(end(), end(), end());
+                case 2 -> askWildly(end(), end(), end());
+                case 3 -> tellVertices(1);
+                case 4 -> lookAtPixels(1);
+                default -> changeMatrix();
+            }
+        }
+    }
+
+    private void changeWildly(int a, int b, int c) {
+        int d = end();
+        switch (pick(0, 6)) {
+            case 0 -> changeRow(pick(-1, 4), a, b, c, d);
+            case 1 -> make("move", () -> model.move(a, b, c), () -> scene.move(a, b, c));
+            case 2 -> make("stretch", () -> model.stretch(a, b, c), () -> scene.stretch(a, b, c));
+            case 3 -> make("turn", () -> model.turn(a), () -> scene.turn(a));
+            case 4 -> make("push", model::push, scene::push);
+            case 5 -> make("join", model::join, scene::join);
+            default -> make("pop", model::pop, scene::pop);
+        }
+    }
+
+    private void tellWildly(int a, int b, int c) {
+        int d = end();
+        int e = end();
+        switch (pick(0, 4)) {
+            case 0 -> ask("vertex", () -> model.vertex(a, b, c, d, e), () -> scene.vertex(a, b, c, d, e));
+            case 1 -> ask("use", () -> model.use(a, b, c), () -> scene.use(a, b, c));
+            case 2 -> ask("texel", () -> model.texel(a, b, c, d), () -> scene.texel(a, b, c, d));
+            case 3 -> ask("draw", () -> model.draw(a), () -> scene.draw(a));
+            default -> {
+                if (pick(0, 9) == 0) {
+                    ask("clear()", model::clear, scene::clear);
+                }
+            }
+        }
+    }
+
+    private void askWildly(int a, int b, int c) {
+        int d = end();
+        switch (pick(0, 5)) {
+            case 0 -> ask("entry", () -> model.entry(a, b), () -> scene.entry(a, b));
+            case 1 -> ask("colour", () -> model.colour(a, b), () -> scene.colour(a, b));
+            case 2 -> ask("owner", () -> model.owner(a, b), () -> scene.owner(a, b));
+            case 3 -> ask("depth", () -> model.depth(a, b), () -> scene.depth(a, b));
+            case 4 -> ask("compare", () -> model.compare(a, b, c, d), () -> scene.compare(a, b, c, d));
+            default -> ask("triangle", () -> model.triangle(a, b), () -> scene.triangle(a, b));
+        }
+    }
+
+    private int end() {
+        return ENDS[pick(0, ENDS.length - 1)];
     }
 
     /** What the document promises of an object ends with its 512th call. */
