@@ -290,6 +290,7 @@ public final class MatrixTest {
                 () -> greatest.stretch(1, 1, Integer.MAX_VALUE));
     }
 
+    /** "An entry would not be -511 .. 511": here none would, however great a, b and c are. */
     private static void stretchOfZerosIsNeverRefused() {
         ExactScene scene = new ExactScene();
         CHECKS.duePass("a stretch by zeros", () -> scene.stretch(0, 0, 0));
@@ -353,6 +354,7 @@ public final class MatrixTest {
         CHECKS.dueThrow("pop after the joins", IllegalStateException.class, scene::pop);
     }
 
+    /** "Which leaves the pile": a full one has room again. */
     private static void joinMakesRoomOnThePile() {
         ExactScene scene = new ExactScene();
         for (int n = 0; n < 4; n++) {
@@ -429,6 +431,7 @@ public final class MatrixTest {
         dueMatrix("the one below", scene, IDENTITY);
     }
 
+    /** "The current matrix is put on the pile, too": what becomes of it later is not felt there. */
     private static void pushKeepsACopy() {
         ExactScene scene = sceneWith(COUNTING);
         scene.push();
@@ -452,6 +455,7 @@ public final class MatrixTest {
         CHECKS.dueThrow("push after that", IllegalStateException.class, scene::push);
     }
 
+    /** "A call that throws .. changes nothing": neither the current matrix nor the four. */
     private static void refusedPushChangesNothing() {
         ExactScene scene = new ExactScene();
         for (int n = 1; n <= 4; n++) {
@@ -467,6 +471,7 @@ public final class MatrixTest {
         }
     }
 
+    /** "The latest of the pile leaves it and is the current matrix": from the full pile to the empty one. */
     private static void popTakesTheLatest() {
         ExactScene scene = new ExactScene();
         for (int n = 0; n < 4; n++) {

@@ -119,6 +119,7 @@ public final class PictureTest {
         CHECKS.due("one from behind is shown too", 1, () -> scene.owner(15, 11));
     }
 
+    /** A new object is as promised while another is in use. */
     private static void newObjectKnowsNothingOfOthers() {
         ExactScene used = new ExactScene();
         used.texel(0, 0, 0, 9);
@@ -212,6 +213,7 @@ public final class PictureTest {
         }
     }
 
+    /** "Each three vertices told one behind the other are a TRIANGLE": fewer cover nothing. */
     private static void onesNotWholeAreNotDrawn() {
         ExactScene scene = new ExactScene();
         scene.vertex(-1, -1, 0, 0, 0);

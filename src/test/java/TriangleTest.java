@@ -57,6 +57,7 @@ public final class TriangleTest {
         triangleRefusesOneThatIsCleared();
     }
 
+    /** "How many triangles there are then": from none to the 20th. */
     private static void vertexCountsTriangles() {
         ExactScene scene = new ExactScene();
         for (int n = 0; n < 60; n++) {
@@ -326,6 +327,7 @@ public final class TriangleTest {
         }
     }
 
+    /** "There are no triangles any more": 20 can be told again. */
     private static void clearOfAFullSceneMakesRoom() {
         ExactScene scene = fullScene();
         scene.clear();
@@ -389,6 +391,7 @@ public final class TriangleTest {
         CHECKS.due("D of one from the front", 4L * 768, () -> scene.triangle(1, 0));
     }
 
+    /** "D of a triangle": 0 where the places are on a line. */
     private static void triangleTellsZeroOfALine() {
         ExactScene scene = new ExactScene();
         Scenes.tell(scene, 0, 0, 5);
@@ -436,6 +439,7 @@ public final class TriangleTest {
         CHECKS.dueThrow("triangle(19, 13)", IndexOutOfBoundsException.class, () -> full.triangle(19, 13));
     }
 
+    /** "There is none such": one or two vertices are no triangle. */
     private static void triangleRefusesOneNotWhole() {
         ExactScene scene = new ExactScene();
         Scenes.tellFull(scene, 0, 0, 0);
@@ -447,6 +451,7 @@ public final class TriangleTest {
         CHECKS.due("triangle(1, 1) of three", 16L, () -> scene.triangle(1, 1));
     }
 
+    /** "There is none such": no longer, after clear(). */
     private static void triangleRefusesOneThatIsCleared() {
         ExactScene scene = fullScene();
         scene.clear();
